@@ -52,6 +52,11 @@ public final class BulletinsTest {
         Check.due("14: the greatest level", desk.publish(), 4);
         desk.addRegion();
         Check.refuses(desk, "14: publish twice, a region later", STATE, desk::publish);
+
+        AvalancheDesk most = deskWith(6);
+        makeLevel(most, 5, 3);
+        Check.due("14: publish with six", most.publish(), 3);
+        Check.due("14: the sixth is told", most.bulletin(0, 5, 1), 16 + 128);
     }
 
     private static void promise15() {
@@ -259,6 +264,15 @@ public final class BulletinsTest {
         desk.addRegion();
         desk.see(2, 0, 1);
         Check.due("20: a bulletin that does not tell of it", desk.inCore(2), 1.0);
+        AvalancheDesk two = deskWith(2);
+        makeLevel(two, 1, 2);
+        two.publish();
+        two.see(0, 0, 1);
+        two.see(1, 0, 1);
+        two.see(1, 1, 1);
+        two.see(1, 7, 1);
+        Check.due("20: of two regions, the first", two.inCore(0), 1.0);
+        Check.due("20: of two regions, the second", two.inCore(1), 1.0 / 3.0);
         for (int region : new int[] {-1, 3, 6, Integer.MIN_VALUE, Integer.MAX_VALUE}) {
             Check.refuses(desk, "20: wrong inCore", INDEX, () -> desk.inCore(region));
         }

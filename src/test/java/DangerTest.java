@@ -138,6 +138,12 @@ public final class DangerTest {
         put(desk, 3, 40, 0, 100, 0);
         Check.due("12: sums 0, 61, 0, 61 and what is outside", desk.mainProblem(0), 1);
 
+        AvalancheDesk hoar = desk();
+        for (int s = 0; s < 12; s++) {
+            hoar.set(0, s, HOAR, 10);
+        }
+        Check.due("12: hoar is no problem", hoar.mainProblem(0), 0);
+
         AvalancheDesk weak = desk();
         put(weak, 0, 50, 50, 90, 0);
         put(weak, 1, 50, 50, 90, 0);

@@ -6,7 +6,7 @@ import java.lang.reflect.Modifier;
 import java.util.Set;
 import java.util.TreeSet;
 
-/** The public face is the document's, and no other member can be seen from outside. */
+/** The public face is the document's, and no other member can be seen from outside (LANGUAGE.md, rule 1). */
 public final class FaceTest {
     private static final String STATE = " IllegalStateException";
     private static final String INDEX = " IndexOutOfBoundsException";
@@ -48,6 +48,14 @@ public final class FaceTest {
         if (!seen.equals(due)) {
             Check.fault("the methods are " + seen + ", due are " + new TreeSet<>(due));
         }
+        Set<String> names = new TreeSet<>();
+        for (String signature : due) {
+            names.add(signature.substring(signature.indexOf(' ') + 1, signature.indexOf('(')));
+        }
+        checkHidden(AvalancheDesk.class, names);
+        for (Class<?> inside : AvalancheDesk.class.getDeclaredClasses()) {
+            checkHidden(inside, names);
+        }
         for (Field f : AvalancheDesk.class.getDeclaredFields()) {
             if (isSeen(f)) {
                 Check.fault("the field " + f.getName() + " is not in the document");
@@ -58,6 +66,21 @@ public final class FaceTest {
         Check.due("parameters of the constructor", constructors[0].getParameterCount(), 0);
         Check.due("modifiers of the class", AvalancheDesk.class.getModifiers(), Modifier.PUBLIC | Modifier.FINAL);
         Check.finish();
+    }
+
+    /** LANGUAGE.md, rules 1 and 5: no private method with a public one's name, no static state. */
+    private static void checkHidden(Class<?> type, Set<String> names) {
+        for (Method m : type.getDeclaredMethods()) {
+            boolean isFace = type == AvalancheDesk.class && isSeen(m);
+            if (!isFace && !m.isSynthetic() && names.contains(m.getName())) {
+                Check.fault("the hidden method " + m.getName() + " bears the name of a public one");
+            }
+        }
+        for (Field f : type.getDeclaredFields()) {
+            if (Modifier.isStatic(f.getModifiers()) && !Modifier.isFinal(f.getModifiers())) {
+                Check.fault("the static field " + f.getName() + " is not final");
+            }
+        }
     }
 
     private static boolean isSeen(Member m) {
