@@ -23,6 +23,12 @@ final class Check {
         }
     }
 
+    static void due(String call, String got, String want) {
+        if (!got.equals(want)) {
+            fault(call + " answered " + got + ", due is " + want);
+        }
+    }
+
     /** The call throws just this class (no class below it: those the machine throws), and nothing changes. */
     static void refuses(AvalancheDesk desk, String name, Class<? extends RuntimeException> kind, Runnable call) {
         String before = View.of(desk);

@@ -238,6 +238,15 @@ final class Model {
     }
 
     long digest() {
+        long d = 331;
+        for (int x : numbers()) {
+            d = d * 31 + x;
+        }
+        return d;
+    }
+
+    /** The numbers of the digest, in their order. */
+    List<Integer> numbers() {
         List<Integer> numbers = new ArrayList<>();
         numbers.add(day);
         numbers.add(regions.size());
@@ -259,11 +268,7 @@ final class Model {
         for (int[] leg : legs) {
             addAll(numbers, leg);
         }
-        long d = 331;
-        for (int x : numbers) {
-            d = d * 31 + x;
-        }
-        return d;
+        return numbers;
     }
 
     private static void addAll(List<Integer> list, int... numbers) {

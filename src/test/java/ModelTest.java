@@ -1,13 +1,17 @@
 /** Long mixed runs of calls, right and wrong ones: the desk answers each as the model does. */
 public final class ModelTest {
-    private static final int RUNS = 240;
-    private static final int CALLS = 512;
+    private static final int RUNS = 600;
+    /** The document promises nothing of what later calls answer. */
+    private static final int PROMISED_CALLS = 512;
+    /** More than any step makes. */
+    private static final int CALLS_OF_A_STEP = 16;
     private static final int[] FAR = {Integer.MIN_VALUE, Integer.MAX_VALUE, -1000, 1000};
 
     private final int run;
     private final AvalancheDesk desk = new AvalancheDesk();
     private final Model model = new Model();
     private long seed;
+    private int calls = 0;
 
     private ModelTest(int run) {
         this.run = run;
@@ -17,9 +21,10 @@ public final class ModelTest {
     public static void main(String[] args) {
         for (int run = 1; run <= RUNS; run++) {
             ModelTest test = new ModelTest(run);
-            for (int call = 0; call < CALLS; call++) {
+            while (test.calls <= PROMISED_CALLS - CALLS_OF_A_STEP) {
                 test.step();
             }
+            Check.due("run " + run + " stays within the promised calls", test.calls <= PROMISED_CALLS, true);
         }
         Check.finish();
     }
@@ -55,7 +60,7 @@ public final class ModelTest {
         if (way < 1 + run % 3 || model.regions.isEmpty() && way < 60) {
             addRegion();
         } else if (way < 8) {
-            end(run % 4 == 0 ? 3 : 1);
+            end(run % 4 == 0 ? 6 : 1);
         } else if (way < 30) {
             weatherOrOutlook(next(3) > 0);
         } else if (way < 42) {
@@ -64,7 +69,7 @@ public final class ModelTest {
             dangerCalls(next(6));
         } else if (way < 78) {
             bulletinCalls(next(6));
-        } else if (way < 84 || run % 5 == 0 && way < 94) {
+        } else if (way < 84 || run % 5 == 4 && way < 94) {
             see();
         } else {
             routeCalls(next(7));
@@ -80,6 +85,7 @@ public final class ModelTest {
     private boolean compare(String name, String fault, Call call, long want) {
         String thrown = null;
         long got = 0;
+        calls++;
         try {
             got = call.answer();
         } catch (RuntimeException e) {
@@ -213,7 +219,8 @@ public final class ModelTest {
     }
 
     private void see() {
-        for (int i = 0; i <= run % 5; i++) {
+        int times = run % 5 == 4 ? 12 : 1 + run % 5;
+        for (int i = 0; i < times; i++) {
             int r = pickRegion();
             int s = pick(0, 11);
             int size = pick(1, 5);
